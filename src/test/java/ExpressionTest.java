@@ -1,0 +1,358 @@
+import java.util.Random;
+
+/** Promises 4 to 6: read, fault, place. */
+public final class ExpressionTest {
+    public static void main(String[] args) {
+        machinesOfExpressions();
+        readKeepsTextAndOthers();
+        readOverAnOlderMachine();
+        letterSets();
+        badBytes();
+        badEnds();
+        everyByteEverywhere();
+        tooManyStates();
+        tooManyOpen();
+        badRanges();
+        firstFaultCounts();
+        faultAndPlaceAreOfTheLastRead();
+        readWrong();
+        longTexts();
+        sameWordsAsJavasOwnExpressions();
+        Check.end();
+    }
+
+    private static void dueMachine(String text, String want) {
+        WordMachines x = new WordMachines();
+        Check.due("read " + text, Ask.read(x, 3, text), want.split(";").length);
+        Check.due("machine of " + text, Ask.machine(x, 3), want);
+        Check.due("fault of " + text, x.fault(), 0);
+        Check.due("place of " + text, x.place(), -1);
+    }
+
+    private static void machinesOfExpressions() {
+        dueMachine("", "0:3;");
+        dueMachine("|", "0:3;");
+        dueMachine("()", "0:3;");
+        dueMachine("()*", "0:3;");
+        dueMachine("(|)+?", "0:3;");
+        dueMachine("((()))()", "0:3;");
+        dueMachine("a", "0:1 a1; 1:2;");
+        dueMachine("h", "0:1 h1; 1:2;");
+        dueMachine(".", "0:1 a1 b1 c1 d1 e1 f1 g1 h1; 1:2;");
+        dueMachine("a*", "0:3 a1; 1:2 a1;");
+        dueMachine("a+", "0:1 a1; 1:2 a1;");
+        dueMachine("a?", "0:3 a1; 1:2;");
+        dueMachine("a+?", "0:3 a1; 1:2 a1;");
+        dueMachine("a?+", "0:3 a1; 1:2 a1;");
+        dueMachine("a**", "0:3 a1; 1:2 a1;");
+        dueMachine("a??", "0:3 a1; 1:2;");
+        dueMachine("ab", "0:1 a1; 1:0 b2; 2:2;");
+        dueMachine("a|b", "0:1 a1 b2; 1:2; 2:2;");
+        dueMachine("a|", "0:3 a1; 1:2;");
+        dueMachine("|a", "0:3 a1; 1:2;");
+        dueMachine("a||b", "0:3 a1 b2; 1:2; 2:2;");
+        dueMachine("ab|c", "0:1 a1 c3; 1:0 b2; 2:2; 3:2;");
+        dueMachine("a(b|c)", "0:1 a1; 1:0 b2 c3; 2:2; 3:2;");
+        dueMachine("a()b", "0:1 a1; 1:0 b2; 2:2;");
+        dueMachine("a?b?", "0:3 a1 b2; 1:2 b2; 2:2;");
+        dueMachine("a?b", "0:1 a1 b2; 1:0 b2; 2:2;");
+        dueMachine("ab?c", "0:1 a1; 1:0 b2 c3; 2:0 c3; 3:2;");
+        dueMachine("ab?", "0:1 a1; 1:2 b2; 2:2;");
+        dueMachine("(ab)*", "0:3 a1; 1:0 b2; 2:2 a1;");
+        dueMachine("(ab)+", "0:1 a1; 1:0 b2; 2:2 a1;");
+        dueMachine("(ab)?a", "0:1 a1 a3; 1:0 b2; 2:0 a3; 3:2;");
+        dueMachine("(a|b)*ab", "0:1 a1 a3 b2; 1:0 a1 a3 b2; 2:0 a1 a3 b2; 3:0 b4; 4:2;");
+        dueMachine("(a*b*)*", "0:3 a1 b2; 1:2 a1 b2; 2:2 a1 b2;");
+        dueMachine("(a|)+b", "0:1 a1 b2; 1:0 a1 b2; 2:2;");
+        dueMachine("a(b(c)*)+", "0:1 a1; 1:0 b2; 2:2 b2 c3; 3:2 b2 c3;");
+    }
+
+    private static void readKeepsTextAndOthers() {
+        WordMachines x = new WordMachines();
+        Ask.read(x, 0, "a*b");
+        for (int k = 1; k < 8; k++) {
+            Check.due("read once more into " + k, x.read(k), 3);
+            Check.due("machine " + k, Ask.machine(x, k), Ask.machine(x, 0));
+        }
+        Check.due("the text stays", x.wipe(), 3);
+        x.read(5);
+        Check.due("machine 5 is new", Ask.machine(x, 5), "0:3;");
+        Check.due("machine 4 stays", Ask.machine(x, 4), Ask.machine(x, 0));
+    }
+
+    private static void readOverAnOlderMachine() {
+        WordMachines x = new WordMachines();
+        Ask.read(x, 0, ".*.*.*.*.*.*.*.*");
+        Ask.read(x, 0, "ab");
+        Check.due("a smaller machine over a larger one", Ask.machine(x, 0), "0:1 a1; 1:0 b2; 2:2;");
+        x.blank(0, 24);
+        x.arc(0, 23, 7, 23, true);
+        x.mark(0, 23, 3);
+        Check.due("read over a told machine", x.read(0), 3);
+        Check.due("the told one is gone", Ask.machine(x, 0), "0:1 a1; 1:0 b2; 2:2;");
+        x.either(1, 0, 0);
+        Check.due("nothing of the older machines is left", Ask.machine(x, 1),
+                "0:1 a1; 1:0 b2; 2:2; 3:1 a4; 4:0 b5; 5:2;");
+    }
+
+    private static void dueLetters(String text, String want) {
+        WordMachines x = new WordMachines();
+        Check.due("read " + text, Ask.read(x, 0, text), 2);
+        StringBuilder got = new StringBuilder();
+        for (int letter = 0; letter < 8; letter++) {
+            if (x.arcs(0, 0, letter) == 2) {
+                got.append((char) ('a' + letter));
+            }
+        }
+        Check.due("letters of " + text, got.toString(), want);
+    }
+
+    private static void letterSets() {
+        dueLetters("[a]", "a");
+        dueLetters("[h]", "h");
+        dueLetters("[ah]", "ah");
+        dueLetters("[aa]", "a");
+        dueLetters("[ha]", "ah");
+        dueLetters("[a-h]", "abcdefgh");
+        dueLetters("[c-e]", "cde");
+        dueLetters("[c-c]", "c");
+        dueLetters("[ac-eh]", "acdeh");
+        dueLetters("[a-bd-eh]", "abdeh");
+        dueLetters("[b-dc-f]", "bcdef");
+        dueLetters("[fa-c]", "abcf");
+        dueLetters("[^a]", "bcdefgh");
+        dueLetters("[^a-g]", "h");
+        dueLetters("[^b-dfh]", "aeg");
+        dueLetters("[^a-h]", "");
+        dueMachine("[^a-h]", "0:1; 1:2;");
+        dueMachine("[^a-h]?b", "0:1 b2; 1:0 b2; 2:2;");
+        dueMachine("[^a][b]", "0:1 b1 c1 d1 e1 f1 g1 h1; 1:0 b2; 2:2;");
+        dueMachine("[ab]*[^a-g]+", "0:1 a1 b1 h2; 1:0 a1 b1 h2; 2:2 h2;");
+    }
+
+    private static void dueFault(String text, int kind, int place) {
+        WordMachines x = new WordMachines();
+        Ask.read(x, 2, "ab");
+        String before = Ask.machine(x, 2);
+        Check.due("read " + text, Ask.read(x, 2, text), -1);
+        Check.due("fault of " + text, x.fault(), kind);
+        Check.due("place of " + text, x.place(), place);
+        Check.due("machine behind " + text, Ask.machine(x, 2), before);
+        Check.due("text behind " + text, x.wipe(), text.length());
+    }
+
+    private static void badBytes() {
+        for (String sign : new String[] {"*", "+", "?"}) {
+            dueFault(sign, 1, 0);
+            dueFault("a|" + sign, 1, 2);
+            dueFault("(" + sign + ")", 1, 1);
+            dueFault("(a)(" + sign + ")", 1, 4);
+            dueFault("a(b|" + sign + ")", 1, 4);
+        }
+        for (String other : new String[] {")", "]", "^", "-", "{", "\\", "i", "`", "A", "H", " ", "\0", "\n", "0",
+            "\u0080", "\u00e1", "\u00ff", "$", ","}) {
+            dueFault(other, 1, 0);
+            dueFault("a" + other, 1, 1);
+            dueFault("a*" + other, 1, 2);
+            dueFault("a|" + other, 1, 2);
+            dueFault("()" + other, 1, 2);
+            dueFault("[a]" + other, 1, 3);
+        }
+        dueFault("a))", 1, 1);
+        dueFault("(a))", 1, 3);
+        dueFault("[]", 1, 1);
+        dueFault("[]a]", 1, 1);
+        dueFault("[^]", 1, 2);
+        dueFault("[^^a]", 1, 2);
+        dueFault("[a^]", 1, 2);
+        dueFault("[-a]", 1, 1);
+        dueFault("[^-a]", 1, 2);
+        dueFault("[a-]", 1, 3);
+        dueFault("[a--b]", 1, 3);
+        dueFault("[a-^]", 1, 3);
+        dueFault("[a-b-c]", 1, 4);
+        dueFault("[a-bc-d-e]", 1, 7);
+        dueFault("[a-i]", 1, 3);
+        dueFault("[i-a]", 1, 1);
+        dueFault("[.]", 1, 1);
+        dueFault("[[a]]", 1, 1);
+        dueFault("[a[b]]", 1, 2);
+        dueFault("[a|b]", 1, 2);
+        dueFault("[a*]", 1, 2);
+        dueFault("[(a)]", 1, 1);
+        dueFault("[a]]", 1, 3);
+        dueFault("[a b]", 1, 2);
+    }
+
+    private static void badEnds() {
+        dueFault("(", 1, 1);
+        dueFault("((a)", 1, 4);
+        dueFault("(a|", 1, 3);
+        dueFault("a(b*", 1, 4);
+        dueFault("[", 1, 1);
+        dueFault("[^", 1, 2);
+        dueFault("[a", 1, 2);
+        dueFault("[a-", 1, 3);
+        dueFault("[a-b", 1, 4);
+        dueFault("([a", 1, 3);
+        dueFault("([a]", 1, 4);
+    }
+
+    /** Each byte behind each beginning, also against the slow parser. */
+    private static void everyByteEverywhere() {
+        String[] beginnings = {"", "a", "a*", "(", "(a", "a|", "(a|", "()", "[", "[^", "[c", "[c-", "[c-e", "[c-ef", "[c]"};
+        WordMachines x = new WordMachines();
+        NaiveMachines naive = new NaiveMachines();
+        for (String beginning : beginnings) {
+            for (int b = 0; b < 256; b++) {
+                naive.text = beginning + (char) b;
+                Check.due("read " + naive.text, Ask.read(x, 0, naive.text), naive.read(0));
+                Check.due("fault of " + naive.text, x.fault(), naive.fault);
+                Check.due("place of " + naive.text, x.place(), naive.place);
+            }
+        }
+    }
+
+    private static void tooManyStates() {
+        WordMachines x = new WordMachines();
+        String most = "a.[b]c*(d|e)?[^f-g].".repeat(2) + "a.[b]c*d(e)*[f]";
+        Check.due("states of 23 atoms", Ask.read(x, 0, most), 24);
+        Check.due("fault of 23 atoms", x.fault(), 0);
+        dueFault(most + "a", 2, most.length());
+        dueFault(most + "h*", 2, most.length());
+        dueFault(most + ".", 2, most.length());
+        dueFault(most + "[a]", 2, most.length());
+        dueFault(most + "[", 2, most.length());
+        dueFault(most + "[]", 2, most.length());
+        dueFault(most + "(|()a", 2, most.length() + 4);
+        dueFault(most + "i", 1, most.length());
+        dueFault(most + "()|()*)a", 1, most.length() + 6);
+        Check.due("no atoms behind 23", Ask.read(x, 0, most + "()|(|)*"), 24);
+        Check.due("letters in [ ] are not counted", Ask.read(x, 0, "[" + "abcdefgh".repeat(10) + "]"), 2);
+        dueFault("a".repeat(24), 2, 23);
+        dueFault("a".repeat(200), 2, 23);
+    }
+
+    private static void tooManyOpen() {
+        WordMachines x = new WordMachines();
+        Check.due("20 open", Ask.read(x, 0, "(".repeat(20) + "a" + ")".repeat(20)), 2);
+        Check.due("machine of 20 open", Ask.machine(x, 0), "0:1 a1; 1:2;");
+        Check.due("20 open, twice", Ask.read(x, 0, ("(".repeat(20) + "a" + ")*".repeat(20)).repeat(2)), 3);
+        Check.due("many that are not open at once", Ask.read(x, 0, "()".repeat(60)), 1);
+        dueFault("(".repeat(21) + ")".repeat(21), 3, 20);
+        dueFault("(".repeat(200), 3, 20);
+        dueFault("(".repeat(20), 1, 20);
+        dueFault("()(a)" + "(".repeat(21), 3, 25);
+        dueFault("(".repeat(20) + ")" + "((", 3, 22);
+        Check.due("the 20th again behind one that closed", Ask.read(x, 0, "(".repeat(20) + ")(a" + ")".repeat(20)), 2);
+    }
+
+    private static void badRanges() {
+        dueFault("[b-a]", 4, 3);
+        dueFault("[h-a]", 4, 3);
+        dueFault("[^c-b]", 4, 4);
+        dueFault("[a-cc-b]", 4, 6);
+        dueFault("[ac-b]", 4, 4);
+        dueFault("[b-a", 4, 3);
+        dueFault("[b-ai", 4, 3);
+        dueFault("ab([c-a])", 4, 6);
+    }
+
+    private static void firstFaultCounts() {
+        dueFault("*" + "a".repeat(30), 1, 0);
+        dueFault("a".repeat(24) + "*)", 2, 23);
+        dueFault("[b-a]" + "a".repeat(30), 4, 3);
+        dueFault("(".repeat(21) + "*", 3, 20);
+        dueFault("a".repeat(23) + "(".repeat(21) + "a", 3, 43);
+        dueFault("(".repeat(20) + "a".repeat(24), 2, 43);
+        dueFault("a".repeat(22) + "[b-a]", 4, 25);
+        dueFault("a".repeat(23) + "[b-a]", 2, 23);
+    }
+
+    private static void faultAndPlaceAreOfTheLastRead() {
+        WordMachines x = new WordMachines();
+        Ask.read(x, 0, "[b-a]");
+        Ask.read(x, 0, "a)");
+        Check.due("a later fault", x.fault(), 1);
+        Check.due("a later place", x.place(), 1);
+        x.fault();
+        Check.due("place asked again", x.place(), 1);
+        Check.dueThrow("read(8)", Check.INDEX, () -> x.read(8));
+        Check.due("fault behind a read that threw", x.fault(), 1);
+        Check.due("place behind a read that threw", x.place(), 1);
+        Ask.read(x, 1, "a");
+        Check.due("fault behind a good read", x.fault(), 0);
+        Check.due("place behind a good read", x.place(), -1);
+        Check.dueThrow("read(-1)", Check.INDEX, () -> x.read(-1));
+        Check.due("fault behind both", x.fault(), 0);
+    }
+
+    private static void readWrong() {
+        WordMachines x = new WordMachines();
+        Ask.setText(x, "ab)");
+        x.read(0);
+        for (int k : new int[] {-1, 8, 9, Integer.MIN_VALUE, Integer.MAX_VALUE}) {
+            Check.dueThrowUnchanged("read(" + k + ")", Check.INDEX, x, () -> x.read(k));
+        }
+        Check.due("the text stays when read throws", x.wipe(), 3);
+    }
+
+    private static void longTexts() {
+        WordMachines x = new WordMachines();
+        Check.due("199 stars", Ask.read(x, 0, "a" + "*".repeat(199)), 2);
+        Check.due("machine of 199 stars", Ask.machine(x, 0), "0:3 a1; 1:2 a1;");
+        Check.due("200 bars", Ask.read(x, 0, "|".repeat(200)), 1);
+        dueFault("|".repeat(199) + "*", 1, 199);
+        dueFault("|".repeat(199) + "(", 1, 200);
+    }
+
+    private static String randomExpression(Random random, int depth, boolean forJava) {
+        StringBuilder made = new StringBuilder();
+        int parts = 1 + random.nextInt(3);
+        for (int p = 0; p < parts; p++) {
+            made.append(p > 0 ? "|" : "");
+            for (int things = random.nextInt(3); things > 0; things--) {
+                made.append(randomThing(random, depth, forJava));
+            }
+        }
+        return made.toString();
+    }
+
+    private static String randomThing(Random random, int depth, boolean forJava) {
+        String atom;
+        int kind = random.nextInt(depth > 0 ? 6 : 4);
+        if (kind < 2) {
+            atom = String.valueOf((char) ('a' + random.nextInt(3)));
+        } else if (kind == 2) {
+            atom = ".";
+        } else if (kind == 3) {
+            atom = (random.nextBoolean() ? "[" : "[^") + (random.nextBoolean() ? "a-b" : "bd-f") + "]";
+        } else {
+            atom = "(" + randomExpression(random, depth - 1, forJava) + ")";
+        }
+        // To Java a second sign means something else, so its things with one are put in parentheses.
+        for (int signs = random.nextInt(3); signs > 0; signs--) {
+            atom = forJava ? "(" + atom + "*+?".charAt(random.nextInt(3)) + ")" : atom + "*+?".charAt(random.nextInt(3));
+        }
+        return atom;
+    }
+
+    private static void sameWordsAsJavasOwnExpressions() {
+        WordMachines x = new WordMachines();
+        for (int seed = 0; seed < 1500; seed++) {
+            String ours = randomExpression(new Random(seed), 3, false);
+            String javas = randomExpression(new Random(seed), 3, true);
+            if (Ask.read(x, 0, ours) == -1) {
+                continue;
+            }
+            Random random = new Random(seed);
+            for (int t = 0; t < 20; t++) {
+                StringBuilder word = new StringBuilder();
+                for (int length = random.nextInt(6); length > 0; length--) {
+                    word.append((char) ('a' + random.nextInt(4)));
+                }
+                Check.due(ours + " takes " + word, Ask.takes(x, 0, word.toString()), word.toString().matches(javas));
+            }
+        }
+    }
+}
