@@ -339,7 +339,10 @@ public final class WordMachines {
         }
     }
 
-    /** What has to be known of a piece of an expression: whether the empty word belongs to it, and its ends. */
+    /**
+     * What is known of a piece of an expression: whether the empty word belongs to it, and which
+     * states can come first and last.
+     */
     private static final class Piece {
         boolean belongs;
         int firstSet;

@@ -17,7 +17,7 @@ public final class ExpressionTest {
         faultAndPlaceAreOfTheLastRead();
         readWrong();
         longTexts();
-        sameWordsAsJavasOwnExpressions();
+        sameWordsAsTheShape();
         Check.end();
     }
 
@@ -200,7 +200,8 @@ public final class ExpressionTest {
 
     /** Each byte behind each beginning, also against the slow parser. */
     private static void everyByteEverywhere() {
-        String[] beginnings = {"", "a", "a*", "(", "(a", "a|", "(a|", "()", "[", "[^", "[c", "[c-", "[c-e", "[c-ef", "[c]"};
+        String[] beginnings = {"", "a", "a*", "(", "(a", "a|", "(a|", "()",
+            "[", "[^", "[c", "[c-", "[c-e", "[c-ef", "[c]"};
         WordMachines x = new WordMachines();
         NaiveMachines naive = new NaiveMachines();
         for (String beginning : beginnings) {
@@ -306,53 +307,29 @@ public final class ExpressionTest {
         dueFault("|".repeat(199) + "(", 1, 200);
     }
 
-    private static String randomExpression(Random random, int depth, boolean forJava) {
-        StringBuilder made = new StringBuilder();
-        int parts = 1 + random.nextInt(3);
-        for (int p = 0; p < parts; p++) {
-            made.append(p > 0 ? "|" : "");
-            for (int things = random.nextInt(3); things > 0; things--) {
-                made.append(randomThing(random, depth, forJava));
-            }
-        }
-        return made.toString();
-    }
-
-    private static String randomThing(Random random, int depth, boolean forJava) {
-        String atom;
-        int kind = random.nextInt(depth > 0 ? 6 : 4);
-        if (kind < 2) {
-            atom = String.valueOf((char) ('a' + random.nextInt(3)));
-        } else if (kind == 2) {
-            atom = ".";
-        } else if (kind == 3) {
-            atom = (random.nextBoolean() ? "[" : "[^") + (random.nextBoolean() ? "a-b" : "bd-f") + "]";
-        } else {
-            atom = "(" + randomExpression(random, depth - 1, forJava) + ")";
-        }
-        // To Java a second sign means something else, so its things with one are put in parentheses.
-        for (int signs = random.nextInt(3); signs > 0; signs--) {
-            atom = forJava ? "(" + atom + "*+?".charAt(random.nextInt(3)) + ")" : atom + "*+?".charAt(random.nextInt(3));
-        }
-        return atom;
-    }
-
-    private static void sameWordsAsJavasOwnExpressions() {
+    private static void sameWordsAsTheShape() {
         WordMachines x = new WordMachines();
-        for (int seed = 0; seed < 1500; seed++) {
-            String ours = randomExpression(new Random(seed), 3, false);
-            String javas = randomExpression(new Random(seed), 3, true);
-            if (Ask.read(x, 0, ours) == -1) {
+        int readable = 0;
+        for (int seed = 0; seed < 3000; seed++) {
+            Random random = new Random(seed);
+            Shape shape = Shape.byChance(random, 3);
+            if (shape.text().length() > 200 || Ask.read(x, 0, shape.text()) == -1) {
                 continue;
             }
-            Random random = new Random(seed);
+            readable++;
             for (int t = 0; t < 20; t++) {
-                StringBuilder word = new StringBuilder();
-                for (int length = random.nextInt(6); length > 0; length--) {
-                    word.append((char) ('a' + random.nextInt(4)));
-                }
-                Check.due(ours + " takes " + word, Ask.takes(x, 0, word.toString()), word.toString().matches(javas));
+                String word = randomWord(random);
+                Check.due(shape.text() + " takes " + word, Ask.takes(x, 0, word), shape.has(word));
             }
         }
+        Check.due("enough shapes are readable", readable > 1000, true);
+    }
+
+    private static String randomWord(Random random) {
+        StringBuilder word = new StringBuilder();
+        for (int length = random.nextInt(7); length > 0; length--) {
+            word.append((char) ('a' + random.nextInt(4)));
+        }
+        return word.toString();
     }
 }

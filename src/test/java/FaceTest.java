@@ -43,7 +43,8 @@ public final class FaceTest {
         fieldsOf(WordMachines.class);
         for (Class<?> inside : WordMachines.class.getDeclaredClasses()) {
             Check.due(inside + " is static", Modifier.isStatic(inside.getModifiers()), true);
-            Check.due(inside + " is hidden", (inside.getModifiers() & (Modifier.PUBLIC | Modifier.PROTECTED)) == 0, true);
+            boolean isHidden = (inside.getModifiers() & (Modifier.PUBLIC | Modifier.PROTECTED)) == 0;
+            Check.due(inside + " is hidden", isHidden, true);
             fieldsOf(inside);
             methodsOf(inside, names);
         }

@@ -1,11 +1,12 @@
 import java.util.Random;
 
-/** Runs of up to 512 calls, told by a seed, against the slow program: each answer, and at the end all that can be asked. */
+/** Runs of calls, told by a seed, against the slow program: each answer, and at the end all that can be asked. */
 public final class RandomRunsTest {
     private static final int RUNS = 150;
     private static final int CALLS = 512;
     private static final String[] BYTES = {"abc", "abcdefgh", "(()|*+?.", "[^-]ab", "i)]\0\u00ff"};
-    private static final String[] TEXTS = {"(a|b)*abb", "a*b?c+", "[a-c]*[^b]", ".*a.", "(ab|b)+a?", "(a|(b|c)*)?d", "a|bb|ccc"};
+    private static final String[] TEXTS = {
+        "(a|b)*abb", "a*b?c+", "[a-c]*[^b]", ".*a.", "(ab|b)+a?", "(a|(b|c)*)?d", "a|bb|ccc"};
 
     private final Random random;
     private final WordMachines x = new WordMachines();
@@ -85,7 +86,8 @@ public final class RandomRunsTest {
             for (int t = 0; t < 8; t++) {
                 piece.append(bytes.charAt(random.nextInt(bytes.length())));
             }
-            compare("feed", () -> x.feed(n, Ask.packed(piece.toString())), () -> naive.feed(n, Ask.packed(piece.toString())));
+            long packed = Ask.packed(piece.toString());
+            compare("feed", () -> x.feed(n, packed), () -> naive.feed(n, packed));
         } else {
             compare("read " + naive.text, () -> x.read(k), () -> naive.read(k));
         }
@@ -97,7 +99,8 @@ public final class RandomRunsTest {
         compare("wipe", x::wipe, naive::wipe);
         for (int at = 0; at < text.length(); at += 8) {
             String piece = text.substring(at, Math.min(text.length(), at + 8));
-            compare("feed", () -> x.feed(piece.length(), Ask.packed(piece)), () -> naive.feed(piece.length(), Ask.packed(piece)));
+            long packed = Ask.packed(piece);
+            compare("feed", () -> x.feed(piece.length(), packed), () -> naive.feed(piece.length(), packed));
         }
     }
 
@@ -157,7 +160,8 @@ public final class RandomRunsTest {
         if (kind < 74) {
             int state = state(k);
             int letter = near(9);
-            compare("arcs " + k + " " + state + " " + letter, () -> x.arcs(k, state, letter), () -> naive.arcs(k, state, letter));
+            compare("arcs " + k + " " + state + " " + letter,
+                    () -> x.arcs(k, state, letter), () -> naive.arcs(k, state, letter));
         } else if (kind < 77) {
             compare("takes " + k + " " + naive.text, () -> bit(x.takes(k)), () -> bit(naive.takes(k)));
         } else if (kind < 83) {
@@ -191,7 +195,8 @@ public final class RandomRunsTest {
                 for (int l = 0; l <= 8; l++) {
                     int state = s;
                     int letter = l;
-                    compare("arcs at the end", () -> x.arcs(machine, state, letter), () -> naive.arcs(machine, state, letter));
+                    compare("arcs at the end",
+                            () -> x.arcs(machine, state, letter), () -> naive.arcs(machine, state, letter));
                 }
             }
         }

@@ -9,6 +9,7 @@ public final class WordTest {
         leastWordAmongMany();
         leastWordOfManyStates();
         longWord();
+        wordBehindManySets();
         keptWordStays();
         withinWrong();
         letterWrong();
@@ -139,6 +140,31 @@ public final class WordTest {
         Check.due("ring in ring", x.within(0, 1), false);
         Check.due("the rings' word", Ask.keptWord(x), "word " + "h".repeat(252));
         Check.dueThrow("behind the rings' word", Check.INDEX, () -> x.letter(252));
+    }
+
+    /**
+     * The one machine takes words of length 20 more than a multiple of 24; the other one all words
+     * that do not drop each state of a full ring, which 21 letters can do at the soonest.
+     */
+    private static void wordBehindManySets() {
+        WordMachines x = new WordMachines();
+        x.blank(0, 24);
+        x.mark(0, 0, 1);
+        x.mark(0, 20, 2);
+        for (int state = 0; state < 24; state++) {
+            x.arc(0, state, 0, (state + 1) % 24, true);
+            x.arc(0, state, 1, (state + 1) % 24, true);
+        }
+        x.blank(1, 11);
+        for (int state = 0; state < 11; state++) {
+            x.mark(1, state, 3);
+            x.arc(1, state, 0, (state + 1) % 11, true);
+            x.arc(1, state, 1, state, state != 0);
+        }
+        Check.due("ring within the ring that drops", x.within(0, 1), false);
+        Check.due("the dropping word", Ask.keptWord(x), "word " + "a".repeat(23) + "ba".repeat(10) + "b");
+        x.mark(0, 20, 0);
+        Check.due("no end within the ring that drops", x.within(0, 1), true);
     }
 
     private static void keptWordStays() {

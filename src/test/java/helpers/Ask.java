@@ -66,7 +66,7 @@ final class Ask {
         return word.toString();
     }
 
-    /** The text's size, told by how much more of it can be fed; the text stays. */
+    /** Which machines take the text: all of it that can be asked without changing it. */
     private static String textSeen(WordMachines x) {
         StringBuilder seen = new StringBuilder();
         for (int k = 0; k < 8; k++) {
