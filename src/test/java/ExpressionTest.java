@@ -15,69 +15,61 @@ public final class ExpressionTest {
         badRanges();
         firstFaultCounts();
         faultAndPlaceAreOfTheLastRead();
-        readWrong();
         longTexts();
         sameWordsAsTheShape();
         Check.end();
     }
 
-    private static void dueMachine(String text, String want) {
-        WordMachines x = new WordMachines();
-        Check.due("read " + text, Ask.read(x, 3, text), want.split(";").length);
-        Check.due("machine of " + text, Ask.machine(x, 3), want);
-        Check.due("fault of " + text, x.fault(), 0);
-        Check.due("place of " + text, x.place(), -1);
-    }
-
     private static void machinesOfExpressions() {
-        dueMachine("", "0:3;");
-        dueMachine("|", "0:3;");
-        dueMachine("()", "0:3;");
-        dueMachine("()*", "0:3;");
-        dueMachine("(|)+?", "0:3;");
-        dueMachine("((()))()", "0:3;");
-        dueMachine("a", "0:1 a1; 1:2;");
-        dueMachine("h", "0:1 h1; 1:2;");
-        dueMachine(".", "0:1 a1 b1 c1 d1 e1 f1 g1 h1; 1:2;");
-        dueMachine("a*", "0:3 a1; 1:2 a1;");
-        dueMachine("a+", "0:1 a1; 1:2 a1;");
-        dueMachine("a?", "0:3 a1; 1:2;");
-        dueMachine("a+?", "0:3 a1; 1:2 a1;");
-        dueMachine("a?+", "0:3 a1; 1:2 a1;");
-        dueMachine("a**", "0:3 a1; 1:2 a1;");
-        dueMachine("a??", "0:3 a1; 1:2;");
-        dueMachine("ab", "0:1 a1; 1:0 b2; 2:2;");
-        dueMachine("a|b", "0:1 a1 b2; 1:2; 2:2;");
-        dueMachine("a|", "0:3 a1; 1:2;");
-        dueMachine("|a", "0:3 a1; 1:2;");
-        dueMachine("a||b", "0:3 a1 b2; 1:2; 2:2;");
-        dueMachine("ab|c", "0:1 a1 c3; 1:0 b2; 2:2; 3:2;");
-        dueMachine("a(b|c)", "0:1 a1; 1:0 b2 c3; 2:2; 3:2;");
-        dueMachine("a()b", "0:1 a1; 1:0 b2; 2:2;");
-        dueMachine("a?b?", "0:3 a1 b2; 1:2 b2; 2:2;");
-        dueMachine("a?b", "0:1 a1 b2; 1:0 b2; 2:2;");
-        dueMachine("ab?c", "0:1 a1; 1:0 b2 c3; 2:0 c3; 3:2;");
-        dueMachine("ab?", "0:1 a1; 1:2 b2; 2:2;");
-        dueMachine("(ab)*", "0:3 a1; 1:0 b2; 2:2 a1;");
-        dueMachine("(ab)+", "0:1 a1; 1:0 b2; 2:2 a1;");
-        dueMachine("(ab)?a", "0:1 a1 a3; 1:0 b2; 2:0 a3; 3:2;");
-        dueMachine("(a|b)*ab", "0:1 a1 a3 b2; 1:0 a1 a3 b2; 2:0 a1 a3 b2; 3:0 b4; 4:2;");
-        dueMachine("(a*b*)*", "0:3 a1 b2; 1:2 a1 b2; 2:2 a1 b2;");
-        dueMachine("(a|)+b", "0:1 a1 b2; 1:0 a1 b2; 2:2;");
-        dueMachine("a(b(c)*)+", "0:1 a1; 1:0 b2; 2:2 b2 c3; 3:2 b2 c3;");
+        Reading.dueMachine("", "0:3;");
+        Reading.dueMachine("|", "0:3;");
+        Reading.dueMachine("()", "0:3;");
+        Reading.dueMachine("()*", "0:3;");
+        Reading.dueMachine("(|)+?", "0:3;");
+        Reading.dueMachine("((()))()", "0:3;");
+        Reading.dueMachine("a", "0:1 a1; 1:2;");
+        Reading.dueMachine("h", "0:1 h1; 1:2;");
+        Reading.dueMachine(".", "0:1 a1 b1 c1 d1 e1 f1 g1 h1; 1:2;");
+        Reading.dueMachine("a*", "0:3 a1; 1:2 a1;");
+        Reading.dueMachine("a+", "0:1 a1; 1:2 a1;");
+        Reading.dueMachine("a?", "0:3 a1; 1:2;");
+        Reading.dueMachine("a+?", "0:3 a1; 1:2 a1;");
+        Reading.dueMachine("a?+", "0:3 a1; 1:2 a1;");
+        Reading.dueMachine("a**", "0:3 a1; 1:2 a1;");
+        Reading.dueMachine("a??", "0:3 a1; 1:2;");
+        Reading.dueMachine("ab", "0:1 a1; 1:0 b2; 2:2;");
+        Reading.dueMachine("a|b", "0:1 a1 b2; 1:2; 2:2;");
+        Reading.dueMachine("a|", "0:3 a1; 1:2;");
+        Reading.dueMachine("|a", "0:3 a1; 1:2;");
+        Reading.dueMachine("a||b", "0:3 a1 b2; 1:2; 2:2;");
+        Reading.dueMachine("ab|c", "0:1 a1 c3; 1:0 b2; 2:2; 3:2;");
+        Reading.dueMachine("a(b|c)", "0:1 a1; 1:0 b2 c3; 2:2; 3:2;");
+        Reading.dueMachine("a()b", "0:1 a1; 1:0 b2; 2:2;");
+        Reading.dueMachine("a?b?", "0:3 a1 b2; 1:2 b2; 2:2;");
+        Reading.dueMachine("a?b", "0:1 a1 b2; 1:0 b2; 2:2;");
+        Reading.dueMachine("ab?c", "0:1 a1; 1:0 b2 c3; 2:0 c3; 3:2;");
+        Reading.dueMachine("ab?", "0:1 a1; 1:2 b2; 2:2;");
+        Reading.dueMachine("(ab)*", "0:3 a1; 1:0 b2; 2:2 a1;");
+        Reading.dueMachine("(ab)+", "0:1 a1; 1:0 b2; 2:2 a1;");
+        Reading.dueMachine("(ab)?a", "0:1 a1 a3; 1:0 b2; 2:0 a3; 3:2;");
+        Reading.dueMachine("(a|b)*ab", "0:1 a1 a3 b2; 1:0 a1 a3 b2; 2:0 a1 a3 b2; 3:0 b4; 4:2;");
+        Reading.dueMachine("(a*b*)*", "0:3 a1 b2; 1:2 a1 b2; 2:2 a1 b2;");
+        Reading.dueMachine("(a|)+b", "0:1 a1 b2; 1:0 a1 b2; 2:2;");
+        Reading.dueMachine("a(b(c)*)+", "0:1 a1; 1:0 b2; 2:2 b2 c3; 3:2 b2 c3;");
     }
 
     private static void readKeepsTextAndOthers() {
         WordMachines x = new WordMachines();
         Ask.read(x, 0, "a*b");
+        String machine = Ask.machine(x, 0);
         for (int k = 1; k < 8; k++) {
             Check.due("read once more into " + k, x.read(k), 3);
-            Check.due("machine " + k, Ask.machine(x, k), Ask.machine(x, 0));
+            Check.due("machine " + k, Ask.machine(x, k), machine);
         }
         Check.due("the text stays", x.wipe(), 3);
         x.read(5);
         Check.due("machine 5 is new", Ask.machine(x, 5), "0:3;");
-        Check.due("machine 4 stays", Ask.machine(x, 4), Ask.machine(x, 0));
+        Check.due("machine 4 stays", Ask.machine(x, 4), machine);
     }
 
     private static void readOverAnOlderMachine() {
@@ -95,117 +87,94 @@ public final class ExpressionTest {
                 "0:1 a1; 1:0 b2; 2:2; 3:1 a4; 4:0 b5; 5:2;");
     }
 
-    private static void dueLetters(String text, String want) {
-        WordMachines x = new WordMachines();
-        Check.due("read " + text, Ask.read(x, 0, text), 2);
-        StringBuilder got = new StringBuilder();
-        for (int letter = 0; letter < 8; letter++) {
-            if (x.arcs(0, 0, letter) == 2) {
-                got.append((char) ('a' + letter));
-            }
-        }
-        Check.due("letters of " + text, got.toString(), want);
-    }
-
     private static void letterSets() {
-        dueLetters("[a]", "a");
-        dueLetters("[h]", "h");
-        dueLetters("[ah]", "ah");
-        dueLetters("[aa]", "a");
-        dueLetters("[ha]", "ah");
-        dueLetters("[a-h]", "abcdefgh");
-        dueLetters("[c-e]", "cde");
-        dueLetters("[c-c]", "c");
-        dueLetters("[ac-eh]", "acdeh");
-        dueLetters("[a-bd-eh]", "abdeh");
-        dueLetters("[b-dc-f]", "bcdef");
-        dueLetters("[fa-c]", "abcf");
-        dueLetters("[^a]", "bcdefgh");
-        dueLetters("[^a-g]", "h");
-        dueLetters("[^b-dfh]", "aeg");
-        dueLetters("[^a-h]", "");
-        dueMachine("[^a-h]", "0:1; 1:2;");
-        dueMachine("[^a-h]?b", "0:1 b2; 1:0 b2; 2:2;");
-        dueMachine("[^a][b]", "0:1 b1 c1 d1 e1 f1 g1 h1; 1:0 b2; 2:2;");
-        dueMachine("[ab]*[^a-g]+", "0:1 a1 b1 h2; 1:0 a1 b1 h2; 2:2 h2;");
-    }
-
-    private static void dueFault(String text, int kind, int place) {
-        WordMachines x = new WordMachines();
-        Ask.read(x, 2, "ab");
-        String before = Ask.machine(x, 2);
-        Check.due("read " + text, Ask.read(x, 2, text), -1);
-        Check.due("fault of " + text, x.fault(), kind);
-        Check.due("place of " + text, x.place(), place);
-        Check.due("machine behind " + text, Ask.machine(x, 2), before);
-        Check.due("text behind " + text, x.wipe(), text.length());
+        Reading.dueLetters("[a]", "a");
+        Reading.dueLetters("[h]", "h");
+        Reading.dueLetters("[ah]", "ah");
+        Reading.dueLetters("[aa]", "a");
+        Reading.dueLetters("[ha]", "ah");
+        Reading.dueLetters("[a-h]", "abcdefgh");
+        Reading.dueLetters("[c-e]", "cde");
+        Reading.dueLetters("[c-c]", "c");
+        Reading.dueLetters("[ac-eh]", "acdeh");
+        Reading.dueLetters("[a-bd-eh]", "abdeh");
+        Reading.dueLetters("[b-dc-f]", "bcdef");
+        Reading.dueLetters("[fa-c]", "abcf");
+        Reading.dueLetters("[^a]", "bcdefgh");
+        Reading.dueLetters("[^a-g]", "h");
+        Reading.dueLetters("[^b-dfh]", "aeg");
+        Reading.dueLetters("[^a-h]", "");
+        Reading.dueMachine("[^a-h]", "0:1; 1:2;");
+        Reading.dueMachine("[^a-h]?b", "0:1 b2; 1:0 b2; 2:2;");
+        Reading.dueMachine("[^a][b]", "0:1 b1 c1 d1 e1 f1 g1 h1; 1:0 b2; 2:2;");
+        Reading.dueMachine("[ab]*[^a-g]+", "0:1 a1 b1 h2; 1:0 a1 b1 h2; 2:2 h2;");
     }
 
     private static void badBytes() {
         for (String sign : new String[] {"*", "+", "?"}) {
-            dueFault(sign, 1, 0);
-            dueFault("a|" + sign, 1, 2);
-            dueFault("(" + sign + ")", 1, 1);
-            dueFault("(a)(" + sign + ")", 1, 4);
-            dueFault("a(b|" + sign + ")", 1, 4);
+            Reading.dueFault(sign, 1, 0);
+            Reading.dueFault("a|" + sign, 1, 2);
+            Reading.dueFault("(" + sign + ")", 1, 1);
+            Reading.dueFault("(a)(" + sign + ")", 1, 4);
+            Reading.dueFault("a(b|" + sign + ")", 1, 4);
         }
         for (String other : new String[] {")", "]", "^", "-", "{", "\\", "i", "`", "A", "H", " ", "\0", "\n", "0",
             "\u0080", "\u00e1", "\u00ff", "$", ","}) {
-            dueFault(other, 1, 0);
-            dueFault("a" + other, 1, 1);
-            dueFault("a*" + other, 1, 2);
-            dueFault("a|" + other, 1, 2);
-            dueFault("()" + other, 1, 2);
-            dueFault("[a]" + other, 1, 3);
+            Reading.dueFault(other, 1, 0);
+            Reading.dueFault("a" + other, 1, 1);
+            Reading.dueFault("a*" + other, 1, 2);
+            Reading.dueFault("a|" + other, 1, 2);
+            Reading.dueFault("()" + other, 1, 2);
+            Reading.dueFault("[a]" + other, 1, 3);
         }
-        dueFault("a))", 1, 1);
-        dueFault("(a))", 1, 3);
-        dueFault("[]", 1, 1);
-        dueFault("[]a]", 1, 1);
-        dueFault("[^]", 1, 2);
-        dueFault("[^^a]", 1, 2);
-        dueFault("[a^]", 1, 2);
-        dueFault("[-a]", 1, 1);
-        dueFault("[^-a]", 1, 2);
-        dueFault("[a-]", 1, 3);
-        dueFault("[a--b]", 1, 3);
-        dueFault("[a-^]", 1, 3);
-        dueFault("[a-b-c]", 1, 4);
-        dueFault("[a-bc-d-e]", 1, 7);
-        dueFault("[a-i]", 1, 3);
-        dueFault("[i-a]", 1, 1);
-        dueFault("[.]", 1, 1);
-        dueFault("[[a]]", 1, 1);
-        dueFault("[a[b]]", 1, 2);
-        dueFault("[a|b]", 1, 2);
-        dueFault("[a*]", 1, 2);
-        dueFault("[(a)]", 1, 1);
-        dueFault("[a]]", 1, 3);
-        dueFault("[a b]", 1, 2);
+        Reading.dueFault("a))", 1, 1);
+        Reading.dueFault("(a))", 1, 3);
+        Reading.dueFault("[]", 1, 1);
+        Reading.dueFault("[]a]", 1, 1);
+        Reading.dueFault("[^]", 1, 2);
+        Reading.dueFault("[^^a]", 1, 2);
+        Reading.dueFault("[a^]", 1, 2);
+        Reading.dueFault("[-a]", 1, 1);
+        Reading.dueFault("[^-a]", 1, 2);
+        Reading.dueFault("[a-]", 1, 3);
+        Reading.dueFault("[a--b]", 1, 3);
+        Reading.dueFault("[a-^]", 1, 3);
+        Reading.dueFault("[a-b-c]", 1, 4);
+        Reading.dueFault("[a-bc-d-e]", 1, 7);
+        Reading.dueFault("[a-i]", 1, 3);
+        Reading.dueFault("[i-a]", 1, 1);
+        Reading.dueFault("[.]", 1, 1);
+        Reading.dueFault("[[a]]", 1, 1);
+        Reading.dueFault("[a[b]]", 1, 2);
+        Reading.dueFault("[a|b]", 1, 2);
+        Reading.dueFault("[a*]", 1, 2);
+        Reading.dueFault("[(a)]", 1, 1);
+        Reading.dueFault("[a]]", 1, 3);
+        Reading.dueFault("[a b]", 1, 2);
     }
 
     private static void badEnds() {
-        dueFault("(", 1, 1);
-        dueFault("((a)", 1, 4);
-        dueFault("(a|", 1, 3);
-        dueFault("a(b*", 1, 4);
-        dueFault("[", 1, 1);
-        dueFault("[^", 1, 2);
-        dueFault("[a", 1, 2);
-        dueFault("[a-", 1, 3);
-        dueFault("[a-b", 1, 4);
-        dueFault("([a", 1, 3);
-        dueFault("([a]", 1, 4);
+        Reading.dueFault("(", 1, 1);
+        Reading.dueFault("((a)", 1, 4);
+        Reading.dueFault("(a|", 1, 3);
+        Reading.dueFault("a(b*", 1, 4);
+        Reading.dueFault("[", 1, 1);
+        Reading.dueFault("[^", 1, 2);
+        Reading.dueFault("[a", 1, 2);
+        Reading.dueFault("[a-", 1, 3);
+        Reading.dueFault("[a-b", 1, 4);
+        Reading.dueFault("([a", 1, 3);
+        Reading.dueFault("([a]", 1, 4);
     }
 
     /** Each byte behind each beginning, also against the slow parser. */
     private static void everyByteEverywhere() {
         String[] beginnings = {"", "a", "a*", "(", "(a", "a|", "(a|", "()",
             "[", "[^", "[c", "[c-", "[c-e", "[c-ef", "[c]"};
-        WordMachines x = new WordMachines();
         NaiveMachines naive = new NaiveMachines();
         for (String beginning : beginnings) {
             for (int b = 0; b < 256; b++) {
+                WordMachines x = new WordMachines();
                 naive.text = beginning + (char) b;
                 Check.due("read " + naive.text, Ask.read(x, 0, naive.text), naive.read(0));
                 Check.due("fault of " + naive.text, x.fault(), naive.fault);
@@ -219,19 +188,19 @@ public final class ExpressionTest {
         String most = "a.[b]c*(d|e)?[^f-g].".repeat(2) + "a.[b]c*d(e)*[f]";
         Check.due("states of 23 atoms", Ask.read(x, 0, most), 24);
         Check.due("fault of 23 atoms", x.fault(), 0);
-        dueFault(most + "a", 2, most.length());
-        dueFault(most + "h*", 2, most.length());
-        dueFault(most + ".", 2, most.length());
-        dueFault(most + "[a]", 2, most.length());
-        dueFault(most + "[", 2, most.length());
-        dueFault(most + "[]", 2, most.length());
-        dueFault(most + "(|()a", 2, most.length() + 4);
-        dueFault(most + "i", 1, most.length());
-        dueFault(most + "()|()*)a", 1, most.length() + 6);
+        Reading.dueFault(most + "a", 2, most.length());
+        Reading.dueFault(most + "h*", 2, most.length());
+        Reading.dueFault(most + ".", 2, most.length());
+        Reading.dueFault(most + "[a]", 2, most.length());
+        Reading.dueFault(most + "[", 2, most.length());
+        Reading.dueFault(most + "[]", 2, most.length());
+        Reading.dueFault(most + "(|()a", 2, most.length() + 4);
+        Reading.dueFault(most + "i", 1, most.length());
+        Reading.dueFault(most + "()|()*)a", 1, most.length() + 6);
         Check.due("no atoms behind 23", Ask.read(x, 0, most + "()|(|)*"), 24);
         Check.due("letters in [ ] are not counted", Ask.read(x, 0, "[" + "abcdefgh".repeat(10) + "]"), 2);
-        dueFault("a".repeat(24), 2, 23);
-        dueFault("a".repeat(200), 2, 23);
+        Reading.dueFault("a".repeat(24), 2, 23);
+        Reading.dueFault("a".repeat(200), 2, 23);
     }
 
     private static void tooManyOpen() {
@@ -240,34 +209,34 @@ public final class ExpressionTest {
         Check.due("machine of 20 open", Ask.machine(x, 0), "0:1 a1; 1:2;");
         Check.due("20 open, twice", Ask.read(x, 0, ("(".repeat(20) + "a" + ")*".repeat(20)).repeat(2)), 3);
         Check.due("many that are not open at once", Ask.read(x, 0, "()".repeat(60)), 1);
-        dueFault("(".repeat(21) + ")".repeat(21), 3, 20);
-        dueFault("(".repeat(200), 3, 20);
-        dueFault("(".repeat(20), 1, 20);
-        dueFault("()(a)" + "(".repeat(21), 3, 25);
-        dueFault("(".repeat(20) + ")" + "((", 3, 22);
+        Reading.dueFault("(".repeat(21) + ")".repeat(21), 3, 20);
+        Reading.dueFault("(".repeat(200), 3, 20);
+        Reading.dueFault("(".repeat(20), 1, 20);
+        Reading.dueFault("()(a)" + "(".repeat(21), 3, 25);
+        Reading.dueFault("(".repeat(20) + ")" + "((", 3, 22);
         Check.due("the 20th again behind one that closed", Ask.read(x, 0, "(".repeat(20) + ")(a" + ")".repeat(20)), 2);
     }
 
     private static void badRanges() {
-        dueFault("[b-a]", 4, 3);
-        dueFault("[h-a]", 4, 3);
-        dueFault("[^c-b]", 4, 4);
-        dueFault("[a-cc-b]", 4, 6);
-        dueFault("[ac-b]", 4, 4);
-        dueFault("[b-a", 4, 3);
-        dueFault("[b-ai", 4, 3);
-        dueFault("ab([c-a])", 4, 6);
+        Reading.dueFault("[b-a]", 4, 3);
+        Reading.dueFault("[h-a]", 4, 3);
+        Reading.dueFault("[^c-b]", 4, 4);
+        Reading.dueFault("[a-cc-b]", 4, 6);
+        Reading.dueFault("[ac-b]", 4, 4);
+        Reading.dueFault("[b-a", 4, 3);
+        Reading.dueFault("[b-ai", 4, 3);
+        Reading.dueFault("ab([c-a])", 4, 6);
     }
 
     private static void firstFaultCounts() {
-        dueFault("*" + "a".repeat(30), 1, 0);
-        dueFault("a".repeat(24) + "*)", 2, 23);
-        dueFault("[b-a]" + "a".repeat(30), 4, 3);
-        dueFault("(".repeat(21) + "*", 3, 20);
-        dueFault("a".repeat(23) + "(".repeat(21) + "a", 3, 43);
-        dueFault("(".repeat(20) + "a".repeat(24), 2, 43);
-        dueFault("a".repeat(22) + "[b-a]", 4, 25);
-        dueFault("a".repeat(23) + "[b-a]", 2, 23);
+        Reading.dueFault("*" + "a".repeat(30), 1, 0);
+        Reading.dueFault("a".repeat(24) + "*)", 2, 23);
+        Reading.dueFault("[b-a]" + "a".repeat(30), 4, 3);
+        Reading.dueFault("(".repeat(21) + "*", 3, 20);
+        Reading.dueFault("a".repeat(23) + "(".repeat(21) + "a", 3, 43);
+        Reading.dueFault("(".repeat(20) + "a".repeat(24), 2, 43);
+        Reading.dueFault("a".repeat(22) + "[b-a]", 4, 25);
+        Reading.dueFault("a".repeat(23) + "[b-a]", 2, 23);
     }
 
     private static void faultAndPlaceAreOfTheLastRead() {
@@ -288,29 +257,19 @@ public final class ExpressionTest {
         Check.due("fault behind both", x.fault(), 0);
     }
 
-    private static void readWrong() {
-        WordMachines x = new WordMachines();
-        Ask.setText(x, "ab)");
-        x.read(0);
-        for (int k : new int[] {-1, 8, 9, Integer.MIN_VALUE, Integer.MAX_VALUE}) {
-            Check.dueThrowUnchanged("read(" + k + ")", Check.INDEX, x, () -> x.read(k));
-        }
-        Check.due("the text stays when read throws", x.wipe(), 3);
-    }
-
     private static void longTexts() {
         WordMachines x = new WordMachines();
         Check.due("199 stars", Ask.read(x, 0, "a" + "*".repeat(199)), 2);
         Check.due("machine of 199 stars", Ask.machine(x, 0), "0:3 a1; 1:2 a1;");
         Check.due("200 bars", Ask.read(x, 0, "|".repeat(200)), 1);
-        dueFault("|".repeat(199) + "*", 1, 199);
-        dueFault("|".repeat(199) + "(", 1, 200);
+        Reading.dueFault("|".repeat(199) + "*", 1, 199);
+        Reading.dueFault("|".repeat(199) + "(", 1, 200);
     }
 
     private static void sameWordsAsTheShape() {
-        WordMachines x = new WordMachines();
         int readable = 0;
         for (int seed = 0; seed < 3000; seed++) {
+            WordMachines x = new WordMachines();
             Random random = new Random(seed);
             Shape shape = Shape.byChance(random, 3);
             if (shape.text().length() > 200 || Ask.read(x, 0, shape.text()) == -1) {

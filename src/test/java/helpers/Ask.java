@@ -56,32 +56,23 @@ final class Ask {
     }
 
     static String keptWord(WordMachines x) {
-        if (x.length() == WordMachines.NONE) {
+        int length = x.length();
+        if (length == WordMachines.NONE) {
             return "none";
         }
         StringBuilder word = new StringBuilder("word ");
-        for (int t = 0; t < x.length(); t++) {
+        for (int t = 0; t < length; t++) {
             word.append((char) ('a' + x.letter(t)));
         }
         return word.toString();
     }
 
-    /** Which machines take the text: all of it that can be asked without changing it. */
-    private static String textSeen(WordMachines x) {
-        StringBuilder seen = new StringBuilder();
-        for (int k = 0; k < 8; k++) {
-            seen.append(x.takes(k) ? '1' : '0');
-        }
-        return seen.toString();
-    }
-
-    static String everything(WordMachines x) {
+    /** Which machines take the text. */
+    static String takers(WordMachines x) {
         StringBuilder all = new StringBuilder();
         for (int k = 0; k < 8; k++) {
-            all.append(machine(x, k)).append('\n');
+            all.append(x.takes(k) ? '1' : '0');
         }
-        all.append("fault ").append(x.fault()).append(" place ").append(x.place());
-        all.append(' ').append(keptWord(x)).append(" taken ").append(textSeen(x));
         return all.toString();
     }
 }

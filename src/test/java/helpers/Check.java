@@ -7,6 +7,7 @@ final class Check {
     private static final String[] THROWN = {"nothing", "IndexOutOfBoundsException", "IllegalArgumentException"};
     private static int checked = 0;
     private static int wrong = 0;
+    private static String running = "";
 
     /** A call whose exception is looked at. */
     interface Call {
@@ -16,11 +17,39 @@ final class Check {
     private Check() {
     }
 
+    /** A test of its own for a sentence of the document, named by the promise that it stands under. */
+    static void promise(int number, String sentence, Call test) {
+        runTest("promise " + number + ", \"" + sentence + "\": ", test);
+    }
+
+    /** A test of its own for a sentence that stands before the promises. */
+    static void terms(String sentence, Call test) {
+        runTest("terms, \"" + sentence + "\": ", test);
+    }
+
+    private static void runTest(String name, Call test) {
+        running = name;
+        int before = checked;
+        try {
+            test.run();
+        } catch (RuntimeException e) {
+            tellWrong("broke off by " + e);
+        }
+        if (checked == before) {
+            tellWrong("checked nothing");
+        }
+        running = "";
+    }
+
+    private static void tellWrong(String line) {
+        wrong++;
+        System.out.println(running + line);
+    }
+
     static void due(String what, long got, long want) {
         checked++;
         if (got != want) {
-            wrong++;
-            System.out.println(what + " answered " + got + ", due is " + want);
+            tellWrong(what + " answered " + got + ", due is " + want);
         }
     }
 
@@ -31,8 +60,7 @@ final class Check {
     static void due(String what, String got, String want) {
         checked++;
         if (!got.equals(want)) {
-            wrong++;
-            System.out.println(what + " answered " + got + ", due is " + want);
+            tellWrong(what + " answered " + got + ", due is " + want);
         }
     }
 
@@ -53,13 +81,6 @@ final class Check {
 
     static void dueThrow(String what, int want, Call call) {
         due(what + " throws", THROWN[thrownBy(call)], THROWN[want]);
-    }
-
-    /** The call throws, and everything that can be asked answers what it did before. */
-    static void dueThrowUnchanged(String what, int want, WordMachines x, Call call) {
-        String before = Ask.everything(x);
-        dueThrow(what, want, call);
-        due("all that can be asked after " + what, Ask.everything(x), before);
     }
 
     static void end() {
