@@ -14,6 +14,7 @@ public final class EdgesOfMadeTest {
         Check.promise(12, "Machine k becomes machine i", EdgesOfMadeTest::turnedInItsPlace);
         Check.promise(12, "Machine k becomes machine i", EdgesOfMadeTest::turnedOverAnOlderMachine);
         Check.promise(12, "with all arcs the other way", EdgesOfMadeTest::turned1And24States);
+        Check.promise(12, "with all arcs the other way", EdgesOfMadeTest::turnedWithAllArcs);
         Check.promise(12, "Machine k becomes machine i", EdgesOfMadeTest::turnChangesThatMachineAlone);
         Check.promise(12, "IndexOutOfBoundsException: there is no machine k or i", EdgesOfMadeTest::turnWrong);
 
@@ -36,6 +37,7 @@ public final class EdgesOfMadeTest {
         Check.promise(14, "Machine k becomes one of pairs", EdgesOfMadeTest::pairsOverAnOlderMachine);
         Check.promise(14, "Answers how many states it has", EdgesOfMadeTest::bothAnswers1To24);
         Check.promise(14, "the number x times j's states, and y", EdgesOfMadeTest::pairsWithState23);
+        Check.promise(14, "arcs lead as both do", EdgesOfMadeTest::pairsWithAllArcs);
         Check.promise(14, "NONE when there would be more than 24", EdgesOfMadeTest::bothNone);
         Check.promise(14, "answers NONE, changes nothing", EdgesOfMadeTest::bothNoneChangesNothing);
         Check.promise(14, "Machine k becomes one of pairs", EdgesOfMadeTest::bothChangesThatMachineAlone);
@@ -132,6 +134,24 @@ public final class EdgesOfMadeTest {
         Check.due("the last one is the start", x.arcs(3, 23, 8), 1);
         for (int state = 0; state < 24; state++) {
             Check.due("the arc from " + state, x.arcs(3, state, 7), state == 0 ? 0 : 1 << state - 1);
+        }
+    }
+
+    /** Arcs from each of 24 states with each letter to all but state 0. */
+    private static WordMachines withAllArcs() {
+        WordMachines x = new WordMachines();
+        Ask.read(x, 0, "(" + ".|".repeat(22) + ".)*");
+        return x;
+    }
+
+    private static void turnedWithAllArcs() {
+        WordMachines x = withAllArcs();
+        x.turn(1, 0);
+        for (int state = 0; state < 24; state++) {
+            Check.due("marks of " + state, x.arcs(1, state, 8), state == 0 ? 3 : 1);
+            for (int letter = 0; letter < 8; letter++) {
+                Check.due("arcs from " + state + " with " + letter, x.arcs(1, state, letter), state == 0 ? 0 : 0xffffff);
+            }
         }
     }
 
@@ -351,6 +371,22 @@ public final class EdgesOfMadeTest {
             Check.due("the first pair is a start", x.arcs(2, 0, 8) & 1, 1);
             Check.due("from the last pair to the first", x.arcs(2, 23, 7), 1);
             Check.due("from the last pair to itself", x.arcs(2, 23, 0), 1 << 23);
+        }
+    }
+
+    private static void pairsWithAllArcs() {
+        WordMachines x = withAllArcs();
+        x.mark(1, 0, 3);
+        for (int letter = 0; letter < 8; letter++) {
+            x.arc(1, 0, letter, 0, true);
+        }
+        Check.due("24 times 1", x.both(2, 0, 1), 24);
+        Check.due("1 times 24", x.both(3, 1, 0), 24);
+        for (int state = 0; state < 24; state += 23) {
+            for (int letter = 0; letter < 8; letter++) {
+                Check.due("24 times 1, arcs from " + state, x.arcs(2, state, letter), 0xfffffe);
+                Check.due("1 times 24, arcs from " + state, x.arcs(3, state, letter), 0xfffffe);
+            }
         }
     }
 

@@ -18,6 +18,7 @@ public final class EdgesOfReadTest {
         Check.promise(4, "Machine k becomes that of the text", EdgesOfReadTest::readChangesThatMachineAlone);
         Check.promise(4, "(which stays)", EdgesOfReadTest::textStays);
         Check.promise(4, "Answers how many states it has", EdgesOfReadTest::readAnswers1To24);
+        Check.promise(4, "Machine k becomes that of the text", EdgesOfReadTest::readAsMuchAsThereMayBe);
         Check.promise(4, "NONE when there is a fault: the machine stays", EdgesOfReadTest::readNoneChangesNothing);
         Check.promise(4, "IndexOutOfBoundsException: there is no machine k", EdgesOfReadTest::readWrong);
 
@@ -255,6 +256,19 @@ public final class EdgesOfReadTest {
             Check.due("states", x.states(5), atoms + 1);
         }
         Reading.dueFault("a".repeat(24), 2, 23);
+    }
+
+    /** 200 bytes, 20 open, 23 atoms, all of which can follow one another. */
+    private static void readAsMuchAsThereMayBe() {
+        String text = "(".repeat(20) + "a|".repeat(22) + "a" + ")*".repeat(20) + "?".repeat(95);
+        WordMachines x = new WordMachines();
+        Check.due("bytes", text.length(), 200);
+        Check.due("read", Ask.read(x, 0, text), 24);
+        for (int state = 0; state < 24; state++) {
+            Check.due("arcs from " + state, x.arcs(0, state, 0), 0xfffffe);
+            Check.due("marks of " + state, x.arcs(0, state, 8), state == 0 ? 3 : 2);
+        }
+        Check.due("wipe", x.wipe(), 200);
     }
 
     private static Scene withText(String text) {
